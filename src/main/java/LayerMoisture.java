@@ -33,7 +33,6 @@ public final class LayerMoisture {
         ledger = new Ledger();
         text = new Text();
         plan = new Plan();
-        hoursPassed = 0;
     }
 
     public void board(int k, double thick, double wet, int kind)
@@ -259,22 +258,17 @@ public final class LayerMoisture {
         if (plan.byHours[step]) {
             return hoursPassed >= plan.times[step];
         }
-        return boardsThere() > 0 && greatestMean() <= plan.times[step] / 100.0;
+        return boardsThere() > 0 && !isAnyWetterThan(plan.times[step] / 100.0);
     }
 
-    private double greatestMean() {
-        boolean found = false;
-        double greatest = 0;
+    /** Whether the greatest of the mean wetnesses is above the bound. */
+    private boolean isAnyWetterThan(double bound) {
         for (int k = 0; k < boards.length; k++) {
-            if (boards[k].there) {
-                double mean = boards[k].meanWetness();
-                if (!found || mean > greatest) {
-                    greatest = mean;
-                }
-                found = true;
+            if (boards[k].there && boards[k].meanWetness() > bound) {
+                return true;
             }
         }
-        return greatest;
+        return false;
     }
 
     /** How fast water moves in a kind of wood: A + B * wetness. */
@@ -330,10 +324,8 @@ public final class LayerMoisture {
 
         Board(int layers, Kind firstKind) {
             wetness = new double[layers];
+            // Not read before the board is laid; it is there so that the kind is never null.
             kind = firstKind;
-            // Never read before the board is laid, but a divisor is kept off 0 from the start.
-            depth = 1;
-            keptHour = NONE;
         }
 
         void lay(double thick, double wet, Kind itsKind) {

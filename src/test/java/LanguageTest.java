@@ -22,8 +22,8 @@ public final class LanguageTest {
         String source = Files.readString(Path.of("src/main/java/LayerMoisture.java"));
         String code = source.replaceAll("(?s)/\\*.*?\\*/", "").replaceAll("//[^\n]*", "");
         due.is("characters beyond 255", source.chars().filter(c -> c > 255).count(), 0L);
-        for (String word : List.of("import ", "package ", "try", "catch", "finally", "->", "::",
-                "assert ", "synchronized", "protected ", "System.", "Exact(", "double[]["))  {
+        for (String word : List.of("import ", "package ", "try {", "catch", "finally", "->", "::",
+                "assert ", "synchronized", "protected ", "System.", "Exact(", "double[][")) {
             due.is("the code has '" + word + "'", code.contains(word), false);
         }
         due.is("what is thrown", found(code, "throw new (\\w+)"), new TreeSet<>(THROWN));

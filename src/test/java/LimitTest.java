@@ -78,6 +78,13 @@ public final class LimitTest {
         x.run(1);
         due.is("11: not so great", x.check(0), LayerMoisture.NONE);
         due.is("11: not so low", x.check(1), LayerMoisture.NONE);
+        for (int layer = 0; layer < 4; layer++) {
+            x.board(0, 8, 3, 0);
+            x.soak(0, layer, 0);
+            x.limit(0, 0.0585);
+            x.run(1);
+            due.is("11: the greatest is in layer " + layer, x.check(0), x.count(0));
+        }
     }
 
     private static void anew(Due due) {

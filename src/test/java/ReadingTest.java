@@ -40,6 +40,8 @@ public final class ReadingTest {
         due.is("14: layer 1", x.stress(1, 1), 0.015625 - mean);
         due.is("14: layer 2", x.stress(1, 2), -mean);
         due.is("14: layer 3", x.stress(1, 3), -mean);
+        due.is("14: above 0.3125 nothing shrinks", soaked(0.5, 0.3125).stress(1, 0), 0);
+        due.is("14: just below it does", soaked(0.25, 0.3125).stress(1, 0), 0.0078125);
         due.is("14: one layer", soaked(0.1).stress(1, 0), 0);
         LayerMoisture odd = soaked(0.1, 0.2, 0.3);
         double a = 0.25 * (0.3125 - 0.1);
