@@ -58,8 +58,10 @@ public final class ModelTest {
             board();
         } else if (choice < 20) {
             rate();
-        } else if (choice < 26) {
+        } else if (choice < 24) {
             air();
+        } else if (choice < 26) {
+            vent();
         } else if (choice < 34) {
             soak();
         } else if (choice < 40) {
@@ -127,7 +129,6 @@ public final class ModelTest {
         double kelvin = numberNear(250, 400);
         double damp = random.nextInt(4) == 0 ? 1 : numberNear(0, 1);
         double speed = random.nextBoolean() ? numberNear(0, 16) : numberNear(0, 2);
-        double share = numberNear(0, 1);
         compare("air " + kelvin + " " + damp + " " + speed, () -> {
             real.air(kelvin, damp, speed);
             return null;
@@ -135,6 +136,10 @@ public final class ModelTest {
             model.air(kelvin, damp, speed);
             return null;
         });
+    }
+
+    private void vent() {
+        double share = numberNear(0, 1);
         compare("vent " + share, () -> {
             real.vent(share);
             return null;
