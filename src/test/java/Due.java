@@ -9,9 +9,25 @@ final class Due {
     private final String test;
     private int asked;
     private int wrong;
+    private String sentence = "";
+    private int askedBefore;
 
     Due(String test) {
         this.test = test;
+    }
+
+    /** From here on the answers are those that this sentence of the document asks for. */
+    void sentence(String words) {
+        closeSentence();
+        sentence = words;
+        askedBefore = asked;
+    }
+
+    /** A sentence without an answer of its own would be one without a test. */
+    private void closeSentence() {
+        if (!sentence.isEmpty() && asked == askedBefore) {
+            tellWrong("nothing was asked");
+        }
     }
 
     void is(String call, Object got, Object want) {
@@ -63,10 +79,11 @@ final class Due {
 
     private void tellWrong(String line) {
         wrong++;
-        System.out.println(test + ": " + line);
+        System.out.println(test + ": " + (sentence.isEmpty() ? "" : "[" + sentence + "] ") + line);
     }
 
     void end() {
+        closeSentence();
         System.out.println(test + ": " + asked + " answers, " + wrong + " of them not as due");
         if (wrong != 0 || asked == 0) {
             System.exit(1);
