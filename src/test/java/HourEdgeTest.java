@@ -3,6 +3,7 @@ public final class HourEdgeTest {
     public static void main(String[] args) {
         Due due = new Due("HourEdgeTest");
         manyCalls(due);
+        inTheOrderTold(due);
         hoursBounds(due);
         untilRefused(due);
         hoursThen(due);
@@ -41,6 +42,46 @@ public final class HourEdgeTest {
             due.is("call " + call, x.run(100), (call - 7) * 100);
         }
         due.is("the last call", x.count(0), 50300);
+    }
+
+    private static void inTheOrderTold(Due due) {
+        due.sentence("reckoned in doubles, by the operations told here, from the left to the right,"
+                + " * and / before + and -, in the order told");
+        for (int n = 1; n <= 200; n++) {
+            double[] wets = {n / 131.0, n / 177.0, n / 223.0};
+            oneHour(due, n, n / 211.0, wets);
+            // Beside zeros a flow is seen whole, and not only what of it a greater number takes up.
+            oneHour(due, n, 0, new double[] {n / 131.0, 0, 0});
+        }
+    }
+
+    private static void oneHour(Due due, int n, double damp, double[] w) {
+        double a = 0.1 + n / 700.0;
+        double b = 0.2 + n / 900.0;
+        double speed = 0.3 + n / 300.0;
+        double kelvin = 260 + n / 1.7;
+        double vent = n / 307.0;
+        double thick = 9 + n / 7.0;
+        LayerMoisture x = new LayerMoisture(3, 1);
+        x.rate(0, a, b);
+        x.air(kelvin, damp, speed);
+        x.vent(vent);
+        x.board(0, thick, w[0], 0);
+        x.soak(0, 1, w[1]);
+        x.soak(0, 2, w[2]);
+        due.is("run, n = " + n, x.run(1), 1);
+        double d = thick / 3;
+        double balance = 0.375 * damp * (1 - (kelvin - 273) / 256);
+        double f0 = (a + b * ((w[0] + w[1]) / 2)) * (w[0] - w[1]) / (d * d);
+        double f1 = (a + b * ((w[1] + w[2]) / 2)) * (w[1] - w[2]) / (d * d);
+        double g = speed * (w[0] - balance) / (8 * d);
+        double h = speed * (w[2] - balance) / (8 * d);
+        double water = (g + h) * d * 64;
+        due.is("W(0), n = " + n, x.wet(0, 0), w[0] - g - f0);
+        due.is("W(1), n = " + n, x.wet(0, 1), w[1] + f0 - f1);
+        due.is("W(2), n = " + n, x.wet(0, 2), w[2] + f1 - h);
+        due.is("REST, n = " + n, x.told(4), water - (long) water);
+        due.is("DAMP, n = " + n, x.told(1), Math.min(1, damp + water / 65536 * (1 - vent)));
     }
 
     private static void hoursBounds(Due due) {

@@ -253,15 +253,17 @@ public final class ReadingEdgeTest {
 
     private static void sumOfShrinkages(Due due) {
         due.sentence("S(i) less M, M being the sum of all S from the first one on / LAYERS");
-        double[] wets = new double[16];
-        double sum = 0;
-        for (int layer = 0; layer < 16; layer++) {
-            wets[layer] = 0.4 / (layer + 1);
-            sum += shrunk(wets[layer]);
-        }
-        LayerMoisture x = still(wets);
-        for (int layer = 0; layer < 16; layer++) {
-            due.is("layer " + layer + " of 16", x.stress(0, layer), shrunk(wets[layer]) - sum / 16);
+        for (int n = 1; n <= 20; n++) {
+            double[] wets = new double[16];
+            double sum = 0;
+            for (int layer = 0; layer < 16; layer++) {
+                wets[layer] = n / 41.0 / (layer + 1);
+                sum += shrunk(wets[layer]);
+            }
+            LayerMoisture x = still(wets);
+            for (int layer = 0; layer < 16; layer++) {
+                due.is("layer " + layer + " of 16, n = " + n, x.stress(0, layer), shrunk(wets[layer]) - sum / 16);
+            }
         }
     }
 
