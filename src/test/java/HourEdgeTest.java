@@ -14,6 +14,7 @@ public final class HourEdgeTest {
         wetnessesThatWere(due);
         wholeGrams(due);
         belowZero(due);
+        restOfEachBoard(due);
         dampAboveOne(due);
         dampBelowZero(due);
         ventShares(due);
@@ -249,6 +250,23 @@ public final class HourEdgeTest {
         giveWater(x, 4.25);
         due.is("grams come above 0 again", x.grams(), 2L);
         due.is("no REST", x.told(4), 0);
+    }
+
+    private static void restOfEachBoard(Due due) {
+        due.sentence("for each board that is there, in order: .. REST grows by it; the whole grams go");
+        // At BALANCE 0.375 the WATER of these boards is 1.25 and -0.5.
+        double[] wets = {0.375 + 1.25 / 16, 0.375 - 0.5 / 16};
+        double[][] rows = {{0, 1, 1, -0.25}, {1, 0, 0, 0.75}};
+        for (double[] row : rows) {
+            LayerMoisture x = new LayerMoisture(1, 2);
+            x.air(273, 1, 1);
+            x.vent(1);
+            x.board((int) row[0], 256, wets[0], 0);
+            x.board((int) row[1], 256, wets[1], 0);
+            x.run(1);
+            due.is("grams, 1.25 being board " + row[0], x.grams(), (long) row[2]);
+            due.is("REST, 1.25 being board " + row[0], x.told(4), row[3]);
+        }
     }
 
     private static void dampAboveOne(Due due) {
