@@ -1,5 +1,7 @@
 /** The edges of promise 9, of AN HOUR and of REFUSED, a method for each sentence that names one. */
 public final class HourEdgeTest {
+    private static final double LEAST = 0x1p-1060;
+
     public static void main(String[] args) {
         Due due = new Due("HourEdgeTest");
         manyCalls(due);
@@ -53,6 +55,9 @@ public final class HourEdgeTest {
             oneHour(due, n, n / 211.0, wets);
             // Beside zeros a flow is seen whole, and not only what of it a greater number takes up.
             oneHour(due, n, 0, new double[] {n / 131.0, 0, 0});
+            // Among the least doubles a division by 8 or 65536 is rounded, too, and its order is seen.
+            oneHour(due, n, n / 211.0 * LEAST, new double[] {wets[0] * LEAST, wets[1] * LEAST, wets[2] * LEAST});
+            oneHour(due, n, 0, new double[] {wets[0] * LEAST, 0, 0});
         }
     }
 

@@ -283,6 +283,14 @@ public final class ReadingEdgeTest {
             }
         }
         due.is("the least of DAMP 1", x.balance(), 0.375 * 129 / 256);
+        for (int n = 1; n <= 2000; n++) {
+            // Among the least doubles every operation is rounded, so that their order is seen.
+            double kelvin = 250 + n / 13.7;
+            double damp = n * 31 * Double.MIN_VALUE;
+            LayerMoisture least = new LayerMoisture(1, 1);
+            least.air(kelvin, damp, 0);
+            due.is("of " + kelvin + ", " + damp, least.balance(), 0.375 * damp * (1 - (kelvin - 273) / 256));
+        }
         x.air(273, 0, 0);
         Boards.schedule(x, "h0:337,100");
         due.is("before the step", x.balance(), 0);

@@ -72,11 +72,13 @@ public final class ScheduleTest {
         due.is("8: no mark behind the 12th step", Boards.schedule(x, text + ";"), -1 - end);
         due.is("8: other than a mark there", Boards.schedule(x, text + "x"), -1 - end);
         due.is("8: wrong within the 12th step", Boards.schedule(x, text.substring(0, end - 1)), -1 - (end - 1));
-        Boards.schedule(x, text.toString());
+        // A new object, as one is for 512 calls.
+        LayerMoisture y = new LayerMoisture(1, 1);
+        Boards.schedule(y, text.toString());
         for (int steps = 1; steps <= 13; steps++) {
-            x.run(1);
-            due.is("8: one step an hour", x.count(1), Math.min(steps, 12));
-            due.is("8: KELVIN of the step", x.told(0), 250 + Math.min(steps, 12));
+            y.run(1);
+            due.is("8: one step an hour", y.count(1), Math.min(steps, 12));
+            due.is("8: KELVIN of the step", y.told(0), 250 + Math.min(steps, 12));
         }
     }
 
